@@ -545,37 +545,17 @@ public final class FraudSieve {
             return payment;
         }
 
-        int sumSent(int account, int from, int end) {
+        int sumOf(int[] parties, int account, int from, int end) {
             int sum = 0;
             for (int payment = from; payment < end; payment++) {
-                if (payers[payment] == account) {
+                if (parties[payment] == account) {
                     sum += amounts[payment];
                 }
             }
             return sum;
         }
 
-        int sumReceived(int account, int from, int end) {
-            int sum = 0;
-            for (int payment = from; payment < end; payment++) {
-                if (receivers[payment] == account) {
-                    sum += amounts[payment];
-                }
-            }
-            return sum;
-        }
-
-        int countSent(int account, int from, int end) {
-            int sent = 0;
-            for (int payment = from; payment < end; payment++) {
-                if (payers[payment] == account) {
-                    sent++;
-                }
-            }
-            return sent;
-        }
-
-        int countSentBetween(int account, int from, int end, int least, int greatest) {
+        int countSent(int account, int from, int end, int least, int greatest) {
             int sent = 0;
             for (int payment = from; payment < end; payment++) {
                 int amount = amounts[payment];
@@ -731,7 +711,7 @@ public final class FraudSieve {
 
         int keptSum(int account, int window) {
             int from = ledger.firstAfter(now - window, firstKept);
-            return ledger.sumSent(account, from, ledger.count);
+            return ledger.sumOf(ledger.payers, account, from, ledger.count);
         }
 
         int sumAnew(int account, int window) {
@@ -761,19 +741,19 @@ public final class FraudSieve {
             int from = ledger.firstAfter(ledger.minutes[payment] - window, 0);
             switch (feature) {
                 case 'n':
-                    return ledger.countSent(payer, from, end);
+                    return ledger.countSent(payer, from, end, 1, GREATEST_AMOUNT);
                 case 's':
-                    return ledger.sumSent(payer, from, end);
+                    return ledger.sumOf(ledger.payers, payer, from, end);
                 case 'm':
                     return ledger.greatestSent(payer, from, end);
                 case 'l':
-                    return ledger.countSentBetween(payer, from, end, LEAST_LOW, GREATEST_LOW);
+                    return ledger.countSent(payer, from, end, LEAST_LOW, GREATEST_LOW);
                 case 'r':
                     return Integer.bitCount(ledger.receiversFrom(payer, from, end));
                 case 'c':
                     return countCountries(ledger.receiversFrom(payer, from, end));
                 case 'i':
-                    return ledger.sumReceived(payer, from, end);
+                    return ledger.sumOf(ledger.receivers, payer, from, end);
                 case 'f':
                     return ledger.isFirstOfPair(payment) ? 1 : 0;
                 case 'q':

@@ -71,13 +71,18 @@ public final class FaceTest {
                 + String.join(", ", exceptions);
     }
 
-    private static void hiddenMembers() {
+    private static Set<String> publicNames() {
         Set<String> names = new HashSet<>();
         for (Method method : FraudSieve.class.getDeclaredMethods()) {
             if (Modifier.isPublic(method.getModifiers())) {
                 names.add(method.getName());
             }
         }
+        return names;
+    }
+
+    private static void hiddenMembers() {
+        Set<String> names = publicNames();
         for (Method method : FraudSieve.class.getDeclaredMethods()) {
             if (!Modifier.isPublic(method.getModifiers())) {
                 String name = method.getName();
@@ -101,6 +106,8 @@ public final class FaceTest {
             for (Method method : inside.getDeclaredMethods()) {
                 Check.same(method.getName() + " has few parameters", true,
                         () -> method.getParameterCount() <= 7);
+                Check.same(method.getName() + " is no public name", false,
+                        () -> publicNames().contains(method.getName()));
             }
         }
     }

@@ -76,6 +76,8 @@ public final class FeatureTest {
         value(x, 5, 'c', 1, 4);
         x.pay(5, 4, 1);
         value(x, 6, 'c', 1, 1);
+        x.pay(4, 0, 1);
+        value(x, 7, 'c', 1, 1);
     }
 
     private static void windowEdges() {

@@ -8,6 +8,7 @@ public final class ModelTest {
     private final Model m = new Model();
     private final int run;
     private long seed;
+    private int calls = 0;
     private int accounts = 0;
 
     private ModelTest(int run) {
@@ -76,20 +77,31 @@ public final class ModelTest {
     }
 
     private void go() {
-        int opened = run % 7 == 0 ? 1 : 2 + below(19);
-        for (int i = 0; i < opened; i++) {
-            open();
-        }
-        int conditions = below(16);
-        int rules = below(8);
+        boolean isFull = run % 8 == 3;
+        repeat(isFull ? 21 : 1 + below(20), 1);
+        int conditions = isFull ? 36 : below(16);
         for (int i = 0; i < conditions; i++) {
-            call(isOneIn(2) ? 16 : 16 + below(4));
+            call(coin() ? 16 : 16 + below(4));
         }
-        for (int i = 0; i < rules; i++) {
-            call(22);
+        repeat(isFull ? 14 : below(8), 22);
+        if (isFull) {
+            fill();
         }
-        for (int i = opened + conditions + rules; i < CALLS; i++) {
+        while (calls < CALLS) {
             call(kind());
+        }
+    }
+
+    /** Pays until there are 200 payments: only then an index too far shows in the answers. */
+    private void fill() {
+        for (int i = 0; i < 250 && m.payments() < 200; i++) {
+            call(isOneIn(15) ? 7 : 9);
+        }
+    }
+
+    private void repeat(int times, int kind) {
+        for (int i = 0; i < times; i++) {
+            call(kind);
         }
     }
 
@@ -114,6 +126,7 @@ public final class ModelTest {
     }
 
     private void call(int kind) {
+        calls++;
         if (kind < 15) {
             callOfAccounts(kind);
         } else if (kind < 25) {

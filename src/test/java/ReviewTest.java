@@ -99,9 +99,11 @@ public final class ReviewTest {
         FraudSieve x = withRules();
         payApart(x, 30, 30, 20, 20, 10);
         Check.fails("44 none decided", Check.ARITHMETIC, () -> x.precision(0));
+        x.decide(2, false);
+        Check.same("44 no fraud", 0f, () -> x.precision(0));
+        Check.fails("44 none decided with it", Check.ARITHMETIC, () -> x.precision(2));
         x.decide(0, true);
         x.decide(1, false);
-        x.decide(2, false);
         Check.same("44 all three", 1f / 3f, () -> x.precision(0));
         Check.same("44 all three", 1f / 3f, () -> x.precision(1));
         Check.same("44 two of them", 0.5f, () -> x.precision(2));
