@@ -16,6 +16,7 @@ final class Check {
 
     private static int calls = 0;
     private static int wrong = 0;
+    private static String topic = "";
 
     private Check() {
     }
@@ -25,7 +26,7 @@ final class Check {
         String got = outcome(call);
         if (!got.equals(String.valueOf(due))) {
             wrong++;
-            System.out.println(label + ": answered " + got + ", due is " + due);
+            System.out.println(topic + label + ": answered " + got + ", due is " + due);
         }
     }
 
@@ -42,6 +43,15 @@ final class Check {
             String machine = message.startsWith("/ by") ? " by the machine" : "";
             return "throws " + e.getClass().getName() + machine;
         }
+    }
+
+    /** What the checks are about from here on: wrong answers are printed with it. */
+    static void setTopic(String text) {
+        topic = text + ": ";
+    }
+
+    static int calls() {
+        return calls;
     }
 
     static void finish() {

@@ -1,4 +1,4 @@
-/** Calls of an object that is full: 20 accounts, 200 payments, 30 conditions and 12 rules. */
+/** An object that is full (20 accounts, 200 payments, 30 conditions, 12 rules), and 512 calls. */
 public final class LimitTest {
     private static final FraudSieve x = new FraudSieve();
 
@@ -10,6 +10,7 @@ public final class LimitTest {
         alerts();
         review();
         later();
+        lastCalls();
         Check.finish();
     }
 
@@ -131,5 +132,22 @@ public final class LimitTest {
         Check.same("14 none", 0, () -> x.sentByAnew(19, 10080));
         Check.fails("38 none", Check.ELEMENT, () -> x.ring(19, 10080));
         Check.same("47 none", true, x::isSound);
+    }
+
+    private static void lastCalls() {
+        Doc.says("What it is", "An object is used for at most 512 calls after it has been made;");
+        FraudSieve passing = new FraudSieve();
+        for (int call = 1; call <= 512; call++) {
+            int due = 1440 * call;
+            Check.same("call " + call, due, () -> passing.pass(1440));
+        }
+        FraudSieve paying = Scenes.withAccounts(2);
+        paying.pay(0, 1, 1);
+        for (int call = 4; call <= 509; call++) {
+            paying.pass(1440);
+        }
+        Check.same("call 510", 1, () -> paying.pay(0, 1, 1));
+        Check.same("call 511", 506 * 1440, () -> paying.valueOf(1, 'q', 1));
+        Check.same("call 512", 506 * 1440, () -> paying.valueOf(1, 'a', 10080));
     }
 }
