@@ -78,6 +78,7 @@ final class AlertPromises {
         y.decide(0, true);
         Check.same("receiver", true, () -> y.isMarked(1));
         Check.same("payer", false, () -> y.isMarked(0));
+        marksOfOthersStay();
         FraudSieve z = withPayments(10);
         z.decide(0, false);
         Check.same("no fraud", false, () -> z.isMarked(1));
@@ -86,6 +87,20 @@ final class AlertPromises {
         z.pay(0, 1, 10);
         z.decide(1, false);
         Check.same("no fraud, marked before", true, () -> z.isMarked(1));
+    }
+
+    private static void marksOfOthersStay() {
+        FraudSieve x = withPayments(10);
+        x.setMarked(0, true);
+        x.setBlocked(1, true);
+        x.setBlocked(2, true);
+        x.decide(0, true);
+        Check.same("another one's mark stays", true, () -> x.isMarked(0));
+        Check.same("a blocked receiver", true, () -> x.isMarked(1));
+        Check.same("another one that is blocked", false, () -> x.isMarked(2));
+        Check.same("the receiver stays blocked", true, () -> x.setBlocked(1, false));
+        Check.same("another one stays blocked", true, () -> x.setBlocked(2, false));
+        Check.same("nobody else is blocked", false, () -> x.setBlocked(0, false));
     }
 
     private static void haveOrder(FraudSieve x, int... due) {

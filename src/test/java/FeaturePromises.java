@@ -172,6 +172,12 @@ final class FeaturePromises {
         values(x, 'c', 4, 1, 1, 2, 3, 4, 4, 1, 1);
         values(x, 'c', 5, 1, 1, 2, 3, 4, 4, 1, 4);
         value(paidByOne(1), 199, 'c', 1, 4);
+        FraudSieve ends = Scenes.withAccounts("dbbbbbbbbbbbbbbbbbbc");
+        ends.pay(1, 0, 1);
+        ends.pay(1, 19, 1);
+        ends.pay(1, 2, 1);
+        values(ends, 'c', 1, 1, 2, 3);
+        values(ends, 'r', 1, 1, 2, 3);
     }
 
     private static void received() {

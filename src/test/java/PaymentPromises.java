@@ -2,6 +2,10 @@
 final class PaymentPromises {
     private static final int LONGEST_WINDOW = 10080;
 
+    private interface SumOf {
+        int of(FraudSieve x, int account, int window);
+    }
+
     private PaymentPromises() {
     }
 
@@ -13,8 +17,11 @@ final class PaymentPromises {
         payThatIsRefused();
         payments();
         minuteOf();
-        sentBy();
-        sentByAnew();
+        Doc.promise(13, "Returns what an account paid in a window at the present time, found from"
+                + " its payments that are kept in the longest window.");
+        sums(13, FraudSieve::sentBy);
+        Doc.promise(14, "Returns the same sum, found by going through all payments.");
+        sums(14, FraudSieve::sentByAnew);
         kept();
     }
 
@@ -177,51 +184,25 @@ final class PaymentPromises {
         Refused.payments((y, payment) -> y.minuteOf(payment));
     }
 
-    private static void sentBy() {
-        Doc.promise(13, "Returns what an account paid in a window at the present time, found from"
-                + " its payments that are kept in the longest window.");
-        FraudSieve x = Scenes.withAccounts(20);
-        sumsOf(x, x::sentBy);
-        Doc.promise(13, "`account`: the number of the account");
+    private static void sums(int promise, SumOf sums) {
+        haveSums(sums);
+        Doc.promise(promise, "`account`: the number of the account");
         FraudSieve two = paidByFirstAndLast();
-        Check.same("first", 30, () -> two.sentBy(0, 1));
-        Check.same("last", 400, () -> two.sentBy(19, 1));
-        Check.same("not one that only receives", 0, () -> two.sentBy(1, 1));
-        Doc.promise(13, "`window`: the window in minutes, 1 to 10080");
+        Check.same("first", 30, () -> sums.of(two, 0, 1));
+        Check.same("last", 400, () -> sums.of(two, 19, 1));
+        Check.same("not one that only receives", 0, () -> sums.of(two, 1, 1));
+        Doc.promise(promise, "`window`: the window in minutes, 1 to 10080");
         two.pass(1);
-        Check.same("shortest", 0, () -> two.sentBy(0, 1));
-        Check.same("longest", 30, () -> two.sentBy(0, LONGEST_WINDOW));
-        Doc.promise(13, "Returns the sum of the amounts.");
-        Check.same("none", 0, () -> two.sentBy(1, LONGEST_WINDOW));
-        Check.same("greatest", 200 * 9999, () -> withPayments(200).sentBy(0, 1));
-        Doc.promise(13, "Throws `IndexOutOfBoundsException` if there is no such account");
-        Refused.accounts((y, account) -> y.sentBy(account, 1));
-        Doc.promise(13, "Throws `IllegalArgumentException` if the window is out of range");
-        Refused.windows(Scenes.MIXED, (y, window) -> y.sentBy(1, window));
-        Refused.windows(Scenes.FULL, (y, window) -> y.sentBy(19, window));
-    }
-
-    private static void sentByAnew() {
-        Doc.promise(14, "Returns the same sum, found by going through all payments.");
-        FraudSieve x = Scenes.withAccounts(20);
-        sumsOf(x, x::sentByAnew);
-        Doc.promise(14, "`account`: the number of the account");
-        FraudSieve two = paidByFirstAndLast();
-        Check.same("first", 30, () -> two.sentByAnew(0, 1));
-        Check.same("last", 400, () -> two.sentByAnew(19, 1));
-        Check.same("not one that only receives", 0, () -> two.sentByAnew(1, 1));
-        Doc.promise(14, "`window`: the window in minutes, 1 to 10080");
-        two.pass(1);
-        Check.same("shortest", 0, () -> two.sentByAnew(0, 1));
-        Check.same("longest", 30, () -> two.sentByAnew(0, LONGEST_WINDOW));
-        Doc.promise(14, "Returns the sum of the amounts.");
-        Check.same("none", 0, () -> two.sentByAnew(1, LONGEST_WINDOW));
-        Check.same("greatest", 200 * 9999, () -> withPayments(200).sentByAnew(0, 1));
-        Doc.promise(14, "Throws `IndexOutOfBoundsException` if there is no such account");
-        Refused.accounts((y, account) -> y.sentByAnew(account, 1));
-        Doc.promise(14, "Throws `IllegalArgumentException` if the window is out of range");
-        Refused.windows(Scenes.MIXED, (y, window) -> y.sentByAnew(1, window));
-        Refused.windows(Scenes.FULL, (y, window) -> y.sentByAnew(19, window));
+        Check.same("shortest", 0, () -> sums.of(two, 0, 1));
+        Check.same("longest", 30, () -> sums.of(two, 0, LONGEST_WINDOW));
+        Doc.promise(promise, "Returns the sum of the amounts.");
+        Check.same("none", 0, () -> sums.of(two, 1, LONGEST_WINDOW));
+        Check.same("greatest", 200 * 9999, () -> sums.of(withPayments(200), 0, 1));
+        Doc.promise(promise, "Throws `IndexOutOfBoundsException` if there is no such account");
+        Refused.accounts((x, account) -> sums.of(x, account, 1));
+        Doc.promise(promise, "Throws `IllegalArgumentException` if the window is out of range");
+        Refused.windows(Scenes.MIXED, (x, window) -> sums.of(x, 1, window));
+        Refused.windows(Scenes.FULL, (x, window) -> sums.of(x, 19, window));
     }
 
     private static FraudSieve paidByFirstAndLast() {
@@ -232,35 +213,32 @@ final class PaymentPromises {
         return x;
     }
 
-    private interface SumOf {
-        int sum(int account, int window);
-    }
-
     /** Amounts of 1, 20, 300 and 4000 fall out of the longest window one after the other. */
-    private static void sumsOf(FraudSieve x, SumOf sums) {
-        Check.same("nothing paid", 0, () -> sums.sum(3, LONGEST_WINDOW));
+    private static void haveSums(SumOf sums) {
+        FraudSieve x = Scenes.withAccounts(20);
+        Check.same("nothing paid", 0, () -> sums.of(x, 3, LONGEST_WINDOW));
         x.pay(3, 4, 1);
         x.pass(1);
         x.pay(3, 5, 20);
         x.pay(4, 3, 7);
         x.pass(1);
         x.pay(3, 4, 300);
-        Check.same("all at the last one", 321, () -> sums.sum(3, 3));
-        Check.same("two", 320, () -> sums.sum(3, 2));
-        Check.same("one", 300, () -> sums.sum(3, 1));
+        Check.same("all at the last one", 321, () -> sums.of(x, 3, 3));
+        Check.same("two", 320, () -> sums.of(x, 3, 2));
+        Check.same("one", 300, () -> sums.of(x, 3, 1));
         Scenes.pass(x, LONGEST_WINDOW - 3);
-        Check.same("first one is still in", 321, () -> sums.sum(3, LONGEST_WINDOW));
-        Check.same("not in a shorter window", 320, () -> sums.sum(3, LONGEST_WINDOW - 1));
+        Check.same("first one is still in", 321, () -> sums.of(x, 3, LONGEST_WINDOW));
+        Check.same("not in a shorter window", 320, () -> sums.of(x, 3, LONGEST_WINDOW - 1));
         x.pass(1);
-        Check.same("first one is out", 320, () -> sums.sum(3, LONGEST_WINDOW));
+        Check.same("first one is out", 320, () -> sums.of(x, 3, LONGEST_WINDOW));
         x.pay(3, 4, 4000);
-        Check.same("a new one is in", 4320, () -> sums.sum(3, LONGEST_WINDOW));
+        Check.same("a new one is in", 4320, () -> sums.of(x, 3, LONGEST_WINDOW));
         x.pass(2);
-        Check.same("only the new one", 4000, () -> sums.sum(3, LONGEST_WINDOW));
-        Check.same("in its minutes", 4000, () -> sums.sum(3, 3));
-        Check.same("not in less", 0, () -> sums.sum(3, 2));
+        Check.same("only the new one", 4000, () -> sums.of(x, 3, LONGEST_WINDOW));
+        Check.same("in its minutes", 4000, () -> sums.of(x, 3, 3));
+        Check.same("not in less", 0, () -> sums.of(x, 3, 2));
         Scenes.pass(x, LONGEST_WINDOW - 2);
-        Check.same("all are out", 0, () -> sums.sum(3, LONGEST_WINDOW));
+        Check.same("all are out", 0, () -> sums.of(x, 3, LONGEST_WINDOW));
     }
 
     private static void kept() {
