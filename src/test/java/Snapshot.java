@@ -162,8 +162,10 @@ final class Snapshot {
             add("setBlocked " + account, x -> x.setBlocked(account, false));
         }
         add("setThreshold", x -> x.setThreshold(1));
-        add("pay", x -> x.pay(1, 0, 1));
-        add("score of pay", x -> x.score(x.payments() - 1));
+        for (int amount : new int[] {1, 9999}) {
+            add("pay " + amount, x -> x.pay(1, 0, amount));
+            add("score of it", x -> x.score(x.payments() - 1));
+        }
         add("open", x -> x.open('d'));
         add("addTest", x -> x.addTest('n', 1, true, 1));
         add("addRule", x -> x.addRule(0, 1));
