@@ -71,7 +71,7 @@ public final class FaceTest {
                 + String.join(", ", exceptions);
     }
 
-    private static Set<String> publicNames() {
+    static Set<String> publicNames() {
         Set<String> names = new HashSet<>();
         for (Method method : FraudSieve.class.getDeclaredMethods()) {
             if (Modifier.isPublic(method.getModifiers())) {
